@@ -90,6 +90,11 @@ public final class LivingTest {
         dueShare(x, 1000, 1, 1, 100000);
         // 99999.9 hundredths of 1920000.
         dueShare(x, 1, 333333, 6400000, 5208);
+        // Without any one of them, of 1840000.
+        DUE.is("maker: of 24 like ones", 0, x.maker(0, 1, 0));
+        DUE.is("maker: of 24 like ones", 5434, x.maker(0, 1, 1));
+        DUE.is("span: of 24 like ones", 5208, x.span(0, 1, 0));
+        DUE.is("span: of 24 like ones", 5434, x.span(0, 1, 1));
     }
 
     private static void promise17Maker() {

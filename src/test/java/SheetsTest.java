@@ -132,7 +132,7 @@ public final class SheetsTest {
         }
         DUE.is("sheet: INDEX", -13, x.item(3, 2, 24, 5));
         DUE.is("sheet: a new row", 8, x.sheet(3, 2, 8));
-        for (int i = 0; i < 8; i++) {
+        for (int i = 7; i >= 0; i--) {
             DUE.is("sheet: of noughts", -2, x.crowds(3, 2, 0));
             x.item(3, 2, i, 1);
         }
