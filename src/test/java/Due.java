@@ -2,12 +2,18 @@
 final class Due {
     private int wrong;
     private int asked;
+    private String sentence = "";
+
+    /** The sentence of the document by which the next answers are due. */
+    void says(String words) {
+        sentence = "'" + words + "' ";
+    }
 
     void is(String call, long want, long got) {
         asked++;
         if (got != want) {
             wrong++;
-            System.out.println(call + " answered " + got + ", due is " + want);
+            System.out.println(sentence + call + " answered " + got + ", due is " + want);
         }
     }
 
@@ -29,6 +35,9 @@ final class Due {
                 w = w << 8 | piece.charAt(i);
             }
             answer = x.type(w, piece.length());
+            if (answer < 0) {
+                throw new IllegalStateException("a test types what THE TAPE does not take: " + text);
+            }
         }
         return answer;
     }
