@@ -255,6 +255,13 @@ public final class EdgesOfCallsTest {
                 }
             }
         }
+        DUE.says("A FAULT (RULES stay, behind good ones of a later YEAR, too)");
+        Due.rules(x, "0:f9l8h7W;1:~");
+        DUE.is("good RULES", 1, Due.rules(x, "7:h5"));
+        for (int what = 0; what < 4; what++) {
+            DUE.is("rule(6, " + what + ")", what + 1 - what / 3, x.rule(6, what));
+            DUE.is("rule(7, " + what + ")", what == 2 ? 5 : 0, x.rule(7, what));
+        }
     }
 
     private static void promise10() {

@@ -33,6 +33,7 @@ public final class EdgesOfRulesAloneTest {
         promise32HowManyItHad();
         promise33LowestBits();
         promise34AsIfTakenAhead();
+        promise34EverySheet();
         promise34None();
         DUE.end();
     }
@@ -563,6 +564,31 @@ public final class EdgesOfRulesAloneTest {
         DUE.is("all 24 of itself", 24, y.copy(0, 0, 0, 0, 24));
         y.crowds(3, 0, 16);
         duePeople(y, 17, 18, 19, 20, 21, 22, 23, 24);
+    }
+
+    private static void promise34EverySheet() {
+        DUE.says("n items of a SHEET come to another one (or the same)");
+        for (int from = 0; from < 4; from++) {
+            for (int to = 0; to < 4; to++) {
+                BookOfWills x = new BookOfWills();
+                for (int sheet = 0; sheet < 4; sheet++) {
+                    Worlds.row(x, sheet, 2, 24, 100 * sheet + 1);
+                }
+                DUE.is("copy(" + from + ", 16, " + to + ", 1, 6)", 6, x.copy(from, 16, to, 1, 6));
+                for (int sheet = 0; sheet < 4; sheet++) {
+                    int own = 100 * sheet;
+                    int other = 100 * from + 16;
+                    x.crowds(sheet, 2, 0);
+                    if (sheet == to) {
+                        duePeople(x, own + 1, other + 1, other + 2, other + 3, other + 4, other + 5, other + 6, own + 8);
+                    } else {
+                        duePeople(x, own + 1, own + 2, own + 3, own + 4, own + 5, own + 6, own + 7, own + 8);
+                    }
+                    x.crowds(sheet, 2, 16);
+                    duePeople(x, own + 17, own + 18, own + 19, own + 20, own + 21, own + 22, own + 23, own + 24);
+                }
+            }
+        }
     }
 
     private static void promise34None() {

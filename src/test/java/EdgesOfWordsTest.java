@@ -16,6 +16,7 @@ public final class EdgesOfWordsTest {
         inTheBook();
         weight();
         kindInThisOrder();
+        byRulesOfIt();
         othersHaveNothing();
         peopleOfAYear();
         totalIsTheSum();
@@ -260,6 +261,37 @@ public final class EdgesOfWordsTest {
         dueShare(x, 1, 1, 1, 100000);
         dueShare(x, 1000, 1, 1, 100000);
         DUE.is("TOTAL", 500, x.total(0, 0));
+    }
+
+    private static void byRulesOfIt() {
+        DUE.says("THE LIVING of a YEAR (by RULES of it, if no others are told)");
+        // By its own RULES 8 (5 of it land) and 4; by those of the YEARS beside it neither is in THE BOOK.
+        for (int year : new int[] {0, 3, 7}) {
+            BookOfWills x = new BookOfWills();
+            Due.rules(x, (year > 0 ? "0:f9999;" : "") + year + ":L" + (year < 7 ? ";" + (year + 1) + ":f9999" : ""));
+            Due.wills(x, year + "0m3l5;" + year + "0m4");
+            DUE.is("TOTAL of " + year, 1200, x.total(year, 0));
+            DUE.is("UNSEEN of " + year, 0, x.total(year, 1));
+            DUE.is("PARTS of " + year, 66666, x.share(year, 1, 2));
+            DUE.is("MAKER of " + year, 0, x.maker(year, 1, 0));
+            DUE.is("SPAN of " + year, 66666, x.span(year, 1, 0));
+            DUE.is("SMOOTH of " + year, 66666, x.smooth(year, 1, 3));
+            DUE.is("BOUNDS of " + year, 66666, x.bounds(year, 1, 0));
+        }
+        BookOfWills x = with("0:;1:f5;2:L;6:f5;7:L", "00m4;00m4;10m4;10m6;20m0l3;20m3;60m0l9;60m9");
+        Due.wills(x, "70m1l1;70m2");
+        // PARTS of YEARS 0, 1, 2: 50000, 100000, 50000; of 6, 7: 100000, 50000.
+        DUE.is("JUMP", 0, x.jump(1, 0));
+        DUE.is("JUMP, by", 50000, x.jump(1, 1));
+        x.had(0, 0, 0);
+        // YEAR 0 has 100000 now.
+        DUE.is("JUMP from 1", 1, x.jump(1, 0));
+        x.had(2, 0, 6);
+        // YEAR 1 has 50000 now.
+        DUE.is("JUMP from 0", 0, x.jump(1, 0));
+        x.had(0, 0, 4);
+        DUE.is("JUMP to the last", 6, x.jump(1, 0));
+        DUE.is("JUMP to the last, by", 50000, x.jump(1, 1));
     }
 
     private static void peopleOfAYear() {
